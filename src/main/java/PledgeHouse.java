@@ -1158,8 +1158,8 @@ public final class PledgeHouse {
     }
 
     /**
-     * The bits that Double.doubleToLongBits tells for a share, which is 0.0, or positive and far from the ends
-     * of the range; the rules leave that method out.
+     * The library of the rules has no way to tell the bits of a double, so they are reckoned; a share is 0.0, or
+     * positive and far from the ends of the range.
      */
     private static long bitsOf(double share) {
         if (share <= 0.0) {
