@@ -1,3 +1,5 @@
+import java.util.function.Consumer;
+
 /** For each promise of the document what it says of ordinary inputs, of edges, and of wrong inputs. */
 public final class PromiseTest {
     private static final Checks C = new Checks();
@@ -192,6 +194,8 @@ public final class PromiseTest {
         C.due("withdraw(0, 5)", h.withdraw(0, 5), 15);
         h.undo();
         C.due("coinsOf after undo", h.coinsOf(0), 20);
+        h.payBack(0, 15);
+        C.due("withdraw of all", h.withdraw(0, 20), 0);
         C.noPlace(h, "withdraw(8, 0)", () -> h.withdraw(8, 0));
         C.noPlace(h, "withdraw(-1, 1)", () -> h.withdraw(-1, 1));
         C.noArgument(h, "withdraw(1, 0)", () -> h.withdraw(1, 0));
@@ -242,7 +246,7 @@ public final class PromiseTest {
         PledgeHouse h = lossMaker();
         h.deposit(0, 100);
         h.readmit(0);
-        C.due("isBarred", h.isBarred(0), false);
+        C.due("isBarred behind readmit", h.isBarred(0), false);
         C.due("lend", h.lend(0, 100), 100);
         C.noState(h, "readmit of one who is not barred", () -> h.readmit(0));
         C.noPlace(h, "readmit(8)", () -> h.readmit(8));
@@ -273,6 +277,9 @@ public final class PromiseTest {
         C.due("isCalled", h.isCalled(0), false);
         C.due("soldOf", h.soldOf(0), 1);
         C.due("piecesOf", h.piecesOf(0, 0), 9);
+        C.due("isBarred without a loss", h.isBarred(0), false);
+        C.due("pass behind one that sold out", h.pass(1), 0);
+        h.undo();
         h.undo();
         C.due("hoursLeft after undo", h.hoursLeft(0), 1);
         h.changeRate(100);
@@ -375,6 +382,20 @@ public final class PromiseTest {
         h.undo();
         h.undo();
         C.due("rate after undo", h.rate(), 100);
+        // 1000 * 10 is a whole coin in ten thousandths, 1001 * 10 is more than that; 1 * 1 is the least part of one.
+        int[][] rounded = {{10, 1000, 1}, {10, 1001, 2}, {1, 1, 1}, {1, 9999, 1}, {1, 10001, 2}};
+        for (int[] debt : rounded) {
+            PledgeHouse r = new PledgeHouse();
+            r.pledge(0, 0, 50);
+            r.setPrice(0, 500);
+            r.changeRate(debt[0]);
+            r.lend(0, debt[1] - debt[1] / 2);
+            if (debt[1] > 1) {
+                r.lend(0, debt[1] / 2);
+            }
+            r.pass(1);
+            C.due("interest on " + debt[1], r.interest(), debt[2]);
+        }
         C.noArgument(h, "changeRate(-1)", () -> h.changeRate(-1));
         C.noArgument(h, "changeRate(101)", () -> h.changeRate(101));
 
@@ -542,6 +563,14 @@ public final class PromiseTest {
     }
 
     private static void followRefused() {
+        C.about("20 follow, a full buffer");
+        PledgeHouse full = house("h1;".repeat(18) + "h1;h10");
+        C.due("firstError of a full buffer", full.firstError(), 60);
+        C.due("follow of a full buffer", full.follow(), 0);
+        C.due("hours", full.hours(), 29);
+        PledgeHouse open = house("h1;".repeat(20));
+        C.due("firstError of a full buffer that is not at an end", open.firstError(), 60);
+        C.noArgument(open, "follow of a full buffer that is not at an end", () -> open.follow());
         C.about("20 follow, all or nothing");
         refused("p1=50;+0:0*50;+0:0*50");
         refused("p1=50;-0:0*1");
@@ -609,9 +638,54 @@ public final class PromiseTest {
             C.due("savedStates", u.savedStates(), turn - 2);
         }
         C.noState(u, "undo", () -> u.undo());
+        eachSaves();
         u.changeRate(2);
         C.due("savedStates behind a call that changes nothing", u.savedStates(), 1);
         wholeStateIsRestored();
+    }
+
+    private static void eachSaves() {
+        saves("setPrice", h -> h.setPrice(1, 100));
+        saves("setCut", h -> h.setCut(1, 20));
+        saves("fall", h -> h.fall(1));
+        saves("pledge", h -> h.pledge(0, 0, 1));
+        saves("release", h -> h.release(0, 0, 1));
+        saves("deposit", h -> h.deposit(0, 2));
+        saves("withdraw", h -> h.withdraw(0, 1));
+        saves("lend", h -> h.lend(0, 1));
+        saves("payBack", h -> h.payBack(0, 1));
+        saves("readmit", h -> h.readmit(1));
+        saves("pass", h -> h.pass(1));
+        saves("changeRate", h -> h.changeRate(10));
+        saves("changeGrace", h -> h.changeGrace(6));
+        saves("changeSlip", h -> h.changeSlip(5));
+        saves("turnOrder", h -> h.turnOrder());
+        saves("follow", h -> h.follow());
+        saves("goBack", h -> h.goBack(0));
+    }
+
+    /** Client 1 is barred; client 0 was, and has umbrellas, coins and a debt again; one state is saved. */
+    private static void saves(String call, Consumer<PledgeHouse> run) {
+        PledgeHouse h = borrowers(2, 400);
+        h.changeGrace(1);
+        h.setPrice(0, 10);
+        h.pass(1);
+        h.readmit(0);
+        h.pledge(0, 0, 5);
+        h.deposit(0, 50);
+        h.lend(0, 40);
+        h.keep(0);
+        while (h.savedStates() > 0) {
+            h.undo();
+        }
+        h.goBack(0);
+        long before = h.digest();
+        type(h, "h1;p0=5;p0=50");
+        run.accept(h);
+        C.due("savedStates behind " + call, h.savedStates(), 2);
+        h.undo();
+        h.clearBuffer();
+        C.due("digest behind the undo of " + call, h.digest(), before);
     }
 
     private static void wholeStateIsRestored() {
@@ -723,6 +797,13 @@ public final class PromiseTest {
         h.pass(2);
         C.due("calledNow", h.calledNow(), 1);
         C.due("rankOf one who owes more than is covered", h.rankOf(5), 0);
+        PledgeHouse bare = new PledgeHouse();
+        bare.deposit(6, 100);
+        bare.lend(6, 1);
+        C.due("riskyBySorting of one who owes, ahead of those without anything", bare.riskyBySorting(0), 6);
+        C.due("riskyByTaking of one who owes, ahead of those without anything", bare.riskyByTaking(0), 6);
+        C.due("rankOf one who owes, ahead of those without anything", bare.rankOf(6), 0);
+        C.due("rankOf one without anything", bare.rankOf(7), 7);
     }
 
     private static void rules() {
