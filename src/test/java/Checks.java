@@ -8,6 +8,10 @@ final class Checks {
     private int failed = 0;
     private String topic = "";
 
+    int count() {
+        return held + failed;
+    }
+
     void about(String newTopic) {
         topic = newTopic;
     }
@@ -47,7 +51,7 @@ final class Checks {
     }
 
     /** A call that throws must also leave everything as it is, so the digest is looked at on both sides. */
-    private void throwing(PledgeHouse house, String call, Call run, Class<?> want) {
+    void throwing(PledgeHouse house, String call, Call run, Class<?> want) {
         long before = house.digest();
         Class<?> got = null;
         try {

@@ -53,7 +53,7 @@ public final class PromiseTest {
 
     private static void setPrice() {
         C.about("2 setPrice");
-        PledgeHouse h = borrowers(2, 800);
+        PledgeHouse h = Houses.borrowers(2, 800);
         C.due("setPrice(0, 99)", h.setPrice(0, 99), 2);
         C.due("priceOf", h.priceOf(0), 99);
         C.due("setPrice of those called", h.setPrice(0, 98), 0);
@@ -72,7 +72,7 @@ public final class PromiseTest {
 
     private static void setCut() {
         C.about("3 setCut");
-        PledgeHouse h = borrowers(3, 800);
+        PledgeHouse h = Houses.borrowers(3, 800);
         C.due("setCut(0, 21)", h.setCut(0, 21), 3);
         C.due("cutOf", h.cutOf(0), 21);
         C.due("setCut(0, 90)", h.setCut(0, 90), 0);
@@ -89,7 +89,7 @@ public final class PromiseTest {
 
     private static void fall() {
         C.about("4 fall");
-        PledgeHouse h = borrowers(1, 800);
+        PledgeHouse h = Houses.borrowers(1, 800);
         h.setPrice(1, 1);
         h.setPrice(2, 3);
         h.setPrice(3, 500);
@@ -123,7 +123,7 @@ public final class PromiseTest {
         C.noArgument(h, "pledge(7, 5, 51)", () -> h.pledge(7, 5, 51));
         h.undo();
         C.due("piecesOf after undo", h.piecesOf(7, 5), 51);
-        PledgeHouse called = borrowers(1, 800);
+        PledgeHouse called = Houses.borrowers(1, 800);
         called.setPrice(0, 99);
         C.due("isCalled", called.isCalled(0), true);
         called.pledge(0, 1, 1);
@@ -132,7 +132,7 @@ public final class PromiseTest {
 
     private static void release() {
         C.about("6 release");
-        PledgeHouse h = borrowers(1, 640);
+        PledgeHouse h = Houses.borrowers(1, 640);
         C.due("release(0, 0, 2)", h.release(0, 0, 2), 8);
         C.noState(h, "release of what covers", () -> h.release(0, 0, 1));
         C.noState(h, "release of too many", () -> h.release(0, 1, 1));
@@ -147,7 +147,7 @@ public final class PromiseTest {
         C.noPlace(h, "release(0, -1, 1)", () -> h.release(0, -1, 1));
         C.noArgument(h, "release(0, 0, 0)", () -> h.release(0, 0, 0));
         C.noArgument(h, "release(0, 1, 51)", () -> h.release(0, 1, 51));
-        PledgeHouse called = borrowers(1, 800);
+        PledgeHouse called = Houses.borrowers(1, 800);
         called.pledge(0, 1, 1);
         called.setPrice(0, 50);
         C.noState(called, "release of a client who is called", () -> called.release(0, 1, 1));
@@ -177,7 +177,7 @@ public final class PromiseTest {
         C.noPlace(h, "deposit(-1, 1)", () -> h.deposit(-1, 1));
         h.undo();
         C.due("coinsOf after undo", h.coinsOf(7), 99991);
-        PledgeHouse called = borrowers(1, 800);
+        PledgeHouse called = Houses.borrowers(1, 800);
         called.setPrice(0, 99);
         called.deposit(0, 8);
         C.due("isCalled behind the deposit", called.isCalled(0), false);
@@ -185,7 +185,7 @@ public final class PromiseTest {
 
     private static void withdraw() {
         C.about("8 withdraw");
-        PledgeHouse h = borrowers(1, 800);
+        PledgeHouse h = Houses.borrowers(1, 800);
         h.deposit(0, 50);
         C.due("withdraw(0, 30)", h.withdraw(0, 30), 20);
         C.noState(h, "withdraw of more", () -> h.withdraw(0, 21));
@@ -204,7 +204,7 @@ public final class PromiseTest {
 
     private static void lend() {
         C.about("9 lend");
-        PledgeHouse h = borrowers(1, 799);
+        PledgeHouse h = Houses.borrowers(1, 799);
         C.noState(h, "lend(0, 2)", () -> h.lend(0, 2));
         C.due("lend(0, 1)", h.lend(0, 1), 800);
         C.noState(h, "lend(0, 1)", () -> h.lend(0, 1));
@@ -214,14 +214,14 @@ public final class PromiseTest {
         C.noPlace(h, "lend(-1, 1)", () -> h.lend(-1, 1));
         C.noArgument(h, "lend(1, 0)", () -> h.lend(1, 0));
         C.noArgument(h, "lend(1, 10000)", () -> h.lend(1, 10000));
-        PledgeHouse barred = lossMaker();
+        PledgeHouse barred = Houses.lossMaker();
         barred.deposit(0, 1000);
         C.noState(barred, "lend to one who is barred", () -> barred.lend(0, 1));
     }
 
     private static void payBack() {
         C.about("10 payBack");
-        PledgeHouse h = borrowers(1, 800);
+        PledgeHouse h = Houses.borrowers(1, 800);
         C.due("payBack(0, 300)", h.payBack(0, 300), 300);
         C.due("debtOf", h.debtOf(0), 500);
         C.due("payBack(0, 9999)", h.payBack(0, 9999), 500);
@@ -233,7 +233,7 @@ public final class PromiseTest {
         C.noPlace(h, "payBack(-1, 1)", () -> h.payBack(-1, 1));
         C.noArgument(h, "payBack(1, 0)", () -> h.payBack(1, 0));
         C.noArgument(h, "payBack(1, 10000)", () -> h.payBack(1, 10000));
-        PledgeHouse called = borrowers(1, 800);
+        PledgeHouse called = Houses.borrowers(1, 800);
         called.setPrice(0, 99);
         called.payBack(0, 7);
         C.due("isCalled with 1 too much", called.isCalled(0), true);
@@ -243,7 +243,7 @@ public final class PromiseTest {
 
     private static void readmit() {
         C.about("11 readmit");
-        PledgeHouse h = lossMaker();
+        PledgeHouse h = Houses.lossMaker();
         h.deposit(0, 100);
         h.readmit(0);
         C.due("isBarred behind readmit", h.isBarred(0), false);
@@ -265,7 +265,7 @@ public final class PromiseTest {
 
     private static void pass() {
         C.about("12 pass");
-        PledgeHouse h = borrowers(1, 800);
+        PledgeHouse h = Houses.borrowers(1, 800);
         C.due("pass(1)", h.pass(1), 0);
         C.due("debtOf", h.debtOf(0), 801);
         C.due("hoursLeft of a new call", h.hoursLeft(0), 6);
@@ -289,7 +289,7 @@ public final class PromiseTest {
         C.due("hours", h.hours(), 106);
         C.noArgument(h, "pass(0)", () -> h.pass(0));
         C.noArgument(h, "pass(101)", () -> h.pass(101));
-        PledgeHouse paid = borrowers(1, 800);
+        PledgeHouse paid = Houses.borrowers(1, 800);
         paid.pass(1);
         paid.deposit(0, 1);
         C.due("isCalled once it is covered", paid.isCalled(0), false);
@@ -300,7 +300,7 @@ public final class PromiseTest {
 
     private static void sellingOut() {
         C.about("12 pass, selling out");
-        PledgeHouse h = borrowers(1, 800);
+        PledgeHouse h = Houses.borrowers(1, 800);
         h.deposit(0, 30);
         h.changeGrace(1);
         h.setPrice(0, 90);
@@ -320,7 +320,7 @@ public final class PromiseTest {
         C.due("what is more than the debt", one.coinsOf(0), 475 - 52);
         C.due("debtOf", one.debtOf(0), 0);
         C.due("repaid", one.repaid(), 52);
-        PledgeHouse lossy = lossMaker();
+        PledgeHouse lossy = Houses.lossMaker();
         C.due("debtOf", lossy.debtOf(0), 0);
         C.due("isBarred", lossy.isBarred(0), true);
         C.due("isCalled", lossy.isCalled(0), false);
@@ -372,7 +372,7 @@ public final class PromiseTest {
 
     private static void changes() {
         C.about("13 changeRate");
-        PledgeHouse h = borrowers(2, 700);
+        PledgeHouse h = Houses.borrowers(2, 700);
         C.due("changeRate(100)", h.changeRate(100), 10);
         h.pass(1);
         C.due("debtOf at 1 percent", h.debtOf(0), 707);
@@ -400,7 +400,7 @@ public final class PromiseTest {
         C.noArgument(h, "changeRate(101)", () -> h.changeRate(101));
 
         C.about("14 changeGrace");
-        PledgeHouse g = borrowers(1, 800);
+        PledgeHouse g = Houses.borrowers(1, 800);
         g.pledge(1, 1, 10);
         g.lend(1, 800);
         g.setPrice(0, 99);
@@ -415,7 +415,7 @@ public final class PromiseTest {
         C.noArgument(g, "changeGrace(25)", () -> g.changeGrace(25));
 
         C.about("15 changeSlip");
-        PledgeHouse s = borrowers(1, 800);
+        PledgeHouse s = Houses.borrowers(1, 800);
         C.due("changeSlip(19)", s.changeSlip(19), 5);
         s.pass(7);
         C.due("soldOf", s.soldOf(0), 7);
@@ -466,14 +466,14 @@ public final class PromiseTest {
         String[] whole = {"p0=1", "p5=500", "c0=0", "c5=90", "c1=9", "+0:0*1", "-7:5*50", "l0=1", "b7=9999", "h1", "h100",
             "h1;h2", "p3=10;c3=10;+3:3*10;-3:3*10;l3=10;b3=10;h10"};
         for (String text : whole) {
-            PledgeHouse h = house(text);
+            PledgeHouse h = Houses.typed(text);
             C.due("firstError of " + text, h.firstError(), text.length());
             C.that(text + " is not taken as orders", tellsOrders(h));
         }
         String[] unfinished = {"", "p", "p0", "p0=", "c", "c5=", "+", "+7", "+7:", "+7:5", "+7:5*", "-", "l", "l7", "l7=",
             "b", "b0=", "h", "h1;", "h1;p", "h1;p0=5;"};
         for (String text : unfinished) {
-            PledgeHouse h = house(text);
+            PledgeHouse h = Houses.typed(text);
             C.due("firstError of " + text, h.firstError(), text.length());
             C.noArgument(h, "follow of " + text, () -> h.follow());
         }
@@ -531,7 +531,7 @@ public final class PromiseTest {
     }
 
     private static void wrong(String text, int place) {
-        PledgeHouse h = house(text);
+        PledgeHouse h = Houses.typed(text);
         C.due("firstError of " + text, h.firstError(), place);
         C.noArgument(h, "follow of " + text, () -> h.follow());
         C.due("clearBuffer behind " + text, h.clearBuffer(), text.length());
@@ -539,7 +539,7 @@ public final class PromiseTest {
 
     private static void follow() {
         C.about("20 follow");
-        PledgeHouse h = house("p1=50;c1=10;+0:1*20;-0:1*4;l0=720;b0=20;h1");
+        PledgeHouse h = Houses.typed("p1=50;c1=10;+0:1*20;-0:1*4;l0=720;b0=20;h1");
         C.due("follow", h.follow(), 0);
         C.due("priceOf", h.priceOf(1), 50);
         C.due("cutOf", h.cutOf(1), 10);
@@ -550,11 +550,11 @@ public final class PromiseTest {
         C.due("hours", h.hours(), 1);
         C.due("clearBuffer", h.clearBuffer(), 0);
         C.due("savedStates", h.savedStates(), 1);
-        type(h, "p1=1");
+        Houses.type(h, "p1=1");
         C.due("follow that calls", h.follow(), 1);
-        type(h, "c2=0");
+        Houses.type(h, "c2=0");
         C.due("follow tells who is called then", h.follow(), 1);
-        type(h, "p1=50;p1=1");
+        Houses.type(h, "p1=50;p1=1");
         C.due("follow that looks behind each order", h.follow(), 1);
         C.due("calls", h.calls(), 2);
         h.undo();
@@ -564,11 +564,11 @@ public final class PromiseTest {
 
     private static void followRefused() {
         C.about("20 follow, a full buffer");
-        PledgeHouse full = house("h1;".repeat(18) + "h1;h10");
+        PledgeHouse full = Houses.typed("h1;".repeat(18) + "h1;h10");
         C.due("firstError of a full buffer", full.firstError(), 60);
         C.due("follow of a full buffer", full.follow(), 0);
         C.due("hours", full.hours(), 29);
-        PledgeHouse open = house("h1;".repeat(20));
+        PledgeHouse open = Houses.typed("h1;".repeat(20));
         C.due("firstError of a full buffer that is not at an end", open.firstError(), 60);
         C.noArgument(open, "follow of a full buffer that is not at an end", () -> open.follow());
         C.about("20 follow, all or nothing");
@@ -577,14 +577,14 @@ public final class PromiseTest {
         refused("h1;l0=1");
         refused("h1;b0=1");
         refused("+0:0*10;l0=800;-0:0*1");
-        PledgeHouse barred = lossMaker();
-        type(barred, "+0:0*10;l0=1");
+        PledgeHouse barred = Houses.lossMaker();
+        Houses.type(barred, "+0:0*10;l0=1");
         C.noState(barred, "follow of a loan to one who is barred", () -> barred.follow());
         C.due("clearBuffer", barred.clearBuffer(), 12);
     }
 
     private static void refused(String text) {
-        PledgeHouse h = house(text);
+        PledgeHouse h = Houses.typed(text);
         C.noState(h, "follow of " + text, () -> h.follow());
         C.due("clearBuffer behind " + text, h.clearBuffer(), text.length());
         C.due("savedStates behind " + text, h.savedStates(), 0);
@@ -592,7 +592,7 @@ public final class PromiseTest {
 
     private static void snapshotsAndUndo() {
         C.about("21 keep, 22 goBack");
-        PledgeHouse h = borrowers(1, 500);
+        PledgeHouse h = Houses.borrowers(1, 500);
         h.keep(0);
         int saved = h.savedStates();
         h.changeRate(50);
@@ -666,7 +666,7 @@ public final class PromiseTest {
 
     /** Client 1 is barred; client 0 was, and has umbrellas, coins and a debt again; one state is saved. */
     private static void saves(String call, Consumer<PledgeHouse> run) {
-        PledgeHouse h = borrowers(2, 400);
+        PledgeHouse h = Houses.borrowers(2, 400);
         h.changeGrace(1);
         h.setPrice(0, 10);
         h.pass(1);
@@ -680,7 +680,7 @@ public final class PromiseTest {
         }
         h.goBack(0);
         long before = h.digest();
-        type(h, "h1;p0=5;p0=50");
+        Houses.type(h, "h1;p0=5;p0=50");
         run.accept(h);
         C.due("savedStates behind " + call, h.savedStates(), 2);
         h.undo();
@@ -689,7 +689,7 @@ public final class PromiseTest {
     }
 
     private static void wholeStateIsRestored() {
-        PledgeHouse h = busyHouse();
+        PledgeHouse h = Houses.busy();
         h.keep(0);
         long busy = h.digest();
         int saved = h.savedStates();
@@ -705,7 +705,7 @@ public final class PromiseTest {
     }
 
     private static void kindsAndClients() {
-        PledgeHouse h = busyHouse();
+        PledgeHouse h = Houses.busy();
         C.about("25 to 29, 36 wrong kinds and clients");
         for (int wrong : new int[] {-1, 6, Integer.MAX_VALUE, Integer.MIN_VALUE}) {
             C.noPlace(h, "priceOf", () -> h.priceOf(wrong));
@@ -769,7 +769,7 @@ public final class PromiseTest {
         C.due("isCalled", h.isCalled(6), true);
         C.due("hoursLeft", h.hoursLeft(6), 6);
         C.due("isBarred", h.isBarred(6), false);
-        PledgeHouse barred = lossMaker();
+        PledgeHouse barred = Houses.lossMaker();
         barred.deposit(0, 10);
         C.due("roomOf one who is barred", barred.roomOf(0), 0);
         C.due("coverOf one who is barred", barred.coverOf(0), 10);
@@ -832,9 +832,9 @@ public final class PromiseTest {
 
     private static void falls() {
         C.about("46 fallToCallByTrying, 47 fallToCallByHalving");
-        callingFall(borrowers(1, 800), 1);
-        callingFall(borrowers(1, 400), 51);
-        callingFall(borrowers(1, 1), 100);
+        callingFall(Houses.borrowers(1, 800), 1);
+        callingFall(Houses.borrowers(1, 400), 51);
+        callingFall(Houses.borrowers(1, 1), 100);
         PledgeHouse cheap = new PledgeHouse();
         cheap.setPrice(0, 2);
         cheap.pledge(0, 0, 10);
@@ -843,10 +843,10 @@ public final class PromiseTest {
         cheap.payBack(0, 1);
         // A price of 2 is 1 down to a half of it, and 0 below that.
         callingFall(cheap, 51);
-        PledgeHouse called = borrowers(1, 800);
+        PledgeHouse called = Houses.borrowers(1, 800);
         called.setPrice(0, 99);
         callingFall(called, 0);
-        PledgeHouse safe = borrowers(1, 50);
+        PledgeHouse safe = Houses.borrowers(1, 50);
         safe.deposit(0, 50);
         C.noState(safe, "fallToCallByTrying", () -> safe.fallToCallByTrying(0));
         C.noState(safe, "fallToCallByHalving", () -> safe.fallToCallByHalving(0));
@@ -865,8 +865,8 @@ public final class PromiseTest {
 
     private static void hoursToCall() {
         C.about("48 hoursToCall");
-        C.due("hoursToCall", borrowers(1, 800).hoursToCall(0), 1);
-        C.due("hoursToCall", borrowers(1, 799).hoursToCall(0), 2);
+        C.due("hoursToCall", Houses.borrowers(1, 800).hoursToCall(0), 1);
+        C.due("hoursToCall", Houses.borrowers(1, 799).hoursToCall(0), 2);
         PledgeHouse h = new PledgeHouse();
         h.deposit(0, 999);
         h.lend(0, 1);
@@ -877,7 +877,7 @@ public final class PromiseTest {
         h.changeRate(0);
         h.lend(0, 999);
         C.noState(h, "hoursToCall without interest", () -> h.hoursToCall(0));
-        PledgeHouse called = borrowers(1, 800);
+        PledgeHouse called = Houses.borrowers(1, 800);
         called.setPrice(0, 99);
         C.due("hoursToCall of one who is called", called.hoursToCall(0), 0);
     }
@@ -892,7 +892,7 @@ public final class PromiseTest {
         h.turnOrder();
         // 406 are owed yet: 311 after the first, 310 are covered by the others.
         C.due("wouldSell by the least cut", h.wouldSell(0), 2);
-        PledgeHouse lossy = borrowers(1, 800);
+        PledgeHouse lossy = Houses.borrowers(1, 800);
         lossy.deposit(0, 5);
         lossy.setPrice(0, 50);
         C.due("wouldSell all", lossy.wouldSell(0), 10);
@@ -900,8 +900,8 @@ public final class PromiseTest {
         lossy.setPrice(0, 1);
         lossy.changeSlip(1);
         C.due("wouldLose if sales bring nothing", lossy.wouldLose(0), 795);
-        C.due("wouldSell of one who is covered", borrowers(1, 500).wouldSell(0), 0);
-        C.due("wouldLose of one who is covered", borrowers(1, 500).wouldLose(0), 0);
+        C.due("wouldSell of one who is covered", Houses.borrowers(1, 500).wouldSell(0), 0);
+        C.due("wouldLose of one who is covered", Houses.borrowers(1, 500).wouldLose(0), 0);
         C.due("wouldSell of one without debt", h.wouldSell(7), 0);
         C.due("wouldLose of one without debt", h.wouldLose(7), 0);
     }
@@ -929,7 +929,7 @@ public final class PromiseTest {
 
     private static void accounts() {
         C.about("52 to 60 accounts");
-        PledgeHouse h = borrowers(2, 800);
+        PledgeHouse h = Houses.borrowers(2, 800);
         h.pass(7);
         h.payBack(1, 100);
         C.due("hours", h.hours(), 7);
@@ -941,7 +941,7 @@ public final class PromiseTest {
         C.due("soldOut", h.soldOut(), 2);
         C.due("debtsByClients", h.debtsByClients(), 1600 + 14 - 290);
         C.due("debtsByAccount", h.debtsByAccount(), 1600 + 14 - 290);
-        PledgeHouse lossy = lossMaker();
+        PledgeHouse lossy = Houses.lossMaker();
         C.due("lent", lossy.lent(), 800);
         C.due("interest", lossy.interest(), 1);
         C.due("repaid", lossy.repaid(), 10 * 9);
@@ -967,120 +967,22 @@ public final class PromiseTest {
     private static void digest() {
         C.about("62 digest");
         PledgeHouse h = new PledgeHouse();
-        C.due("digest of a new house", h.digest(), digestByHand(h, "", 0, 0));
-        PledgeHouse busy = busyHouse();
-        C.due("digest", busy.digest(), digestByHand(busy, "", 0, 0));
-        type(busy, "p0=~");
+        C.due("digest of a new house", h.digest(), PlainDigest.of(h, "", 0, 0));
+        PledgeHouse busy = Houses.busy();
+        C.due("digest", busy.digest(), PlainDigest.of(busy, "", 0, 0));
+        Houses.type(busy, "p0=~");
         busy.keep(1);
-        C.due("digest", busy.digest(), digestByHand(busy, "p0=~", 0, 1));
+        C.due("digest", busy.digest(), PlainDigest.of(busy, "p0=~", 0, 1));
         busy.keep(0);
         busy.pass(50);
-        C.due("digest", busy.digest(), digestByHand(busy, "p0=~", 1, 1));
-        PledgeHouse lossy = lossMaker();
-        C.due("digest", lossy.digest(), digestByHand(lossy, "", 0, 0));
+        C.due("digest", busy.digest(), PlainDigest.of(busy, "p0=~", 1, 1));
+        PledgeHouse lossy = Houses.lossMaker();
+        C.due("digest", lossy.digest(), PlainDigest.of(lossy, "", 0, 0));
         for (int debt = 1; debt <= 800; debt += 47) {
-            PledgeHouse share = borrowers(1, debt);
-            C.due("digest with a debt of " + debt, share.digest(), digestByHand(share, "", 0, 0));
+            PledgeHouse share = Houses.borrowers(1, debt);
+            C.due("digest with a debt of " + debt, share.digest(), PlainDigest.of(share, "", 0, 0));
             share.setPrice(0, 1);
-            C.due("digest with a debt of " + debt, share.digest(), digestByHand(share, "", 0, 0));
-        }
-    }
-
-    private static long digestByHand(PledgeHouse h, String buffer, int firstSlot, int secondSlot) {
-        java.util.List<Long> values = new java.util.ArrayList<>();
-        for (int kind = 0; kind < 6; kind++) {
-            add(values, h.priceOf(kind), h.cutOf(kind), h.pledgedOf(kind), h.soldOf(kind));
-        }
-        for (int client = 0; client < 8; client++) {
-            addClient(values, h, client);
-        }
-        for (int place = 0; place < 8; place++) {
-            add(values, h.riskyBySorting(place), h.riskyByTaking(place));
-        }
-        add(values, h.calledNow(), h.rate(), h.grace(), h.slip(), h.order(), h.calledIfFallen(10), h.calledIfFallen(50));
-        add(values, h.hours(), h.debtsByClients(), h.debtsByAccount(), h.lent(), h.interest(), h.repaid(), h.lost(), h.calls(),
-                h.soldOut(), h.savedStates(), Double.doubleToLongBits(h.usedShare()), firstSlot, secondSlot, buffer.length());
-        for (char sign : buffer.toCharArray()) {
-            add(values, sign);
-        }
-        long hash = 4397;
-        for (long value : values) {
-            hash = 31 * hash + value;
-        }
-        return hash;
-    }
-
-    private static void addClient(java.util.List<Long> values, PledgeHouse h, int client) {
-        for (int kind = 0; kind < 6; kind++) {
-            add(values, h.piecesOf(client, kind));
-        }
-        add(values, h.coinsOf(client), h.debtOf(client), h.worthOf(client), h.coverOf(client), h.roomOf(client));
-        boolean called = h.isCalled(client);
-        add(values, called ? 1 : 0, called ? h.hoursLeft(client) : 0, h.isBarred(client) ? 1 : 0, h.rankOf(client));
-        long trying = 0;
-        long halving = 0;
-        try {
-            trying = h.fallToCallByTrying(client) + 1;
-            halving = h.fallToCallByHalving(client) + 1;
-        } catch (IllegalStateException covered) {
-            C.that("only one of the two ways throws", trying == 0);
-        }
-        add(values, trying, halving, h.wouldSell(client), h.wouldLose(client));
-    }
-
-    private static void add(java.util.List<Long> values, long... more) {
-        for (long value : more) {
-            values.add(value);
-        }
-    }
-
-    /** So many clients with 10 umbrellas of kind 0, which cover 800, and a debt each. */
-    private static PledgeHouse borrowers(int clients, int debt) {
-        PledgeHouse h = new PledgeHouse();
-        for (int client = 0; client < clients; client++) {
-            h.pledge(client, 0, 10);
-            h.lend(client, debt);
-        }
-        return h;
-    }
-
-    /** Client 0 had 10 umbrellas and owed 801; they brought 9 each. */
-    private static PledgeHouse lossMaker() {
-        PledgeHouse h = borrowers(1, 800);
-        h.changeGrace(1);
-        h.setPrice(0, 10);
-        h.pass(1);
-        return h;
-    }
-
-    private static PledgeHouse busyHouse() {
-        PledgeHouse h = new PledgeHouse();
-        for (int client = 0; client < 8; client++) {
-            h.pledge(client, client % 6, 10 + client);
-            h.pledge(client, (client + 2) % 6, 3);
-            h.deposit(client, 11 * client + 1);
-            h.lend(client, h.roomOf(client) - 7 * client);
-            h.setPrice(client % 6, 90 + 7 * client);
-            h.setCut((client + 1) % 6, 12 * client % 90);
-        }
-        h.changeRate(35);
-        h.pass(9);
-        h.turnOrder();
-        h.changeSlip(33);
-        h.changeGrace(4);
-        h.pass(3);
-        return h;
-    }
-
-    private static PledgeHouse house(String text) {
-        PledgeHouse h = new PledgeHouse();
-        type(h, text);
-        return h;
-    }
-
-    private static void type(PledgeHouse h, String text) {
-        for (char sign : text.toCharArray()) {
-            h.append(sign);
+            C.due("digest with a debt of " + debt, share.digest(), PlainDigest.of(share, "", 0, 0));
         }
     }
 }
